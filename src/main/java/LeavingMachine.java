@@ -172,7 +172,7 @@ public final class LeavingMachine {
         }
     }
 
-    /** A procedure, or M, which is as one without TAGS. */
+    /** A procedure, or M, which is checked as one whose TAGS stay empty. */
     private static final class Procedure {
         int name;
         int tags;
@@ -409,7 +409,6 @@ public final class LeavingMachine {
                     return false;
                 }
             }
-            program.main.tags = 0;
             return take('M') && readBody(program.main) && at == text.length;
         }
 
@@ -697,7 +696,9 @@ public final class LeavingMachine {
             catchesInVain = false;
             boolean declared = keepsToItsTags(program.main);
             for (int i = 0; i < program.procedureCount; i++) {
-                declared &= keepsToItsTags(program.procedures[i]);
+                if (!keepsToItsTags(program.procedures[i])) {
+                    declared = false;
+                }
             }
             return declared && !catchesInVain;
         }

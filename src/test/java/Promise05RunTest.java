@@ -164,6 +164,7 @@ public final class Promise05RunTest {
         CHECKS.dueTrap("Dp{Pp;}M{Pp;}", 6);
         CHECKS.dueTrap("Dp{Pq;}Dq{!1;Pp;}M{Pq;}", 6, 1, 1, 1, 1);
         CHECKS.dueTrap("Dp0{Y{T01;}K0a{Pp;}}M{Y{Pp;}K0a{!1;}}", 6);
+        CHECKS.dueTrap("Dp{Y{}F{Y{}F{Y{}F{Pp;}}}}M{Y{}F{Y{}F{Y{}F{Pp;}}}}", 6);
         int[] outs = new int[24];
         for (int i = 0; i < outs.length; i++) {
             outs[i] = i;
