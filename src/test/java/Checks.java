@@ -5,12 +5,28 @@ final class Checks {
     }
 
     private int wrong;
+    private String sentence = "";
+
+    /** The words of the document that the next answers are checked against. */
+    void sentence(String words) {
+        sentence = "\"" + words + "\": ";
+    }
 
     void due(String what, long got, long want) {
         if (got != want) {
-            wrong++;
-            System.out.println(what + " answered " + got + ", due is " + want);
+            tell(what + " answered " + got + ", due is " + want);
         }
+    }
+
+    void due(String what, String got, String want) {
+        if (!got.equals(want)) {
+            tell(what + " is\n    " + got + ", due is\n    " + want);
+        }
+    }
+
+    private void tell(String fault) {
+        wrong++;
+        System.out.println(sentence + fault);
     }
 
     void due(String what, boolean got, boolean want) {
@@ -20,12 +36,10 @@ final class Checks {
     void dueThrow(String what, Class<? extends RuntimeException> want, Call call) {
         try {
             long got = call.answer();
-            wrong++;
-            System.out.println(what + " answered " + got + ", due is " + want.getSimpleName());
+            tell(what + " answered " + got + ", due is " + want.getSimpleName());
         } catch (RuntimeException e) {
             if (e.getClass() != want) {
-                wrong++;
-                System.out.println(what + " threw " + e + ", due is " + want.getSimpleName());
+                tell(what + " threw " + e + ", due is " + want.getSimpleName());
             }
         }
     }
@@ -33,6 +47,13 @@ final class Checks {
     /** The text is compiled by a new object. */
     void dueCompile(String text, int want) {
         due("compile of " + text, typed(text).compile(), want);
+    }
+
+    /** Each text is compiled by a new object. */
+    void dueCompiles(int want, String... texts) {
+        for (String text : texts) {
+            dueCompile(text, want);
+        }
     }
 
     /** The text is compiled and run by a new object, and then answers for all that the run put out. */
@@ -77,6 +98,39 @@ final class Checks {
         for (int from = 0; from < text.length(); from += 8) {
             String piece = text.substring(from, Math.min(from + 8, text.length()));
             due("type of " + piece, machine.type(part(piece)), true);
+        }
+    }
+
+    /** All that can be seen of an object, by some fifty calls that change nothing. */
+    static String seen(LeavingMachine machine) {
+        StringBuilder seen = new StringBuilder("looks");
+        for (int which = -1; which <= 8; which++) {
+            seen.append(' ').append(machine.look(which));
+        }
+        seen.append(", variables");
+        for (int k = 0; k < 8; k++) {
+            seen.append(' ').append(machine.variable(k));
+        }
+        seen.append(", outs");
+        for (int i = 0; i <= machine.look(5); i++) {
+            int place = i;
+            seen.append(' ').append(answer(() -> machine.out(place)));
+        }
+        seen.append(", raised ").append(answer(() -> machine.raised(false)));
+        seen.append(' ').append(answer(() -> machine.raised(true))).append(", raises");
+        for (int p = 0; p < 4; p++) {
+            int place = p;
+            seen.append(' ').append(answer(() -> machine.raises(place)));
+        }
+        return seen.toString();
+    }
+
+    /** What a call answers, or the name of what it throws. */
+    static String answer(Call call) {
+        try {
+            return Long.toString(call.answer());
+        } catch (RuntimeException e) {
+            return e.getClass().getSimpleName();
         }
     }
 

@@ -5,7 +5,7 @@ import java.util.Set;
 import java.util.TreeSet;
 
 /**
- * A second way to read, check and run a text, for RandomProgramsTest: it shares no thought with the class
+ * A second way to read, check and run a text, for the random tests: it shares no thought with the class
  * under test where it can, so ways out are Java's own exceptions and F blocks are Java's own finally.
  */
 final class Model {
@@ -55,6 +55,7 @@ final class Model {
     private Procedure main;
 
     int outcome;
+    int given;
     int fuel;
     int underWay;
     int most;
@@ -273,8 +274,9 @@ final class Model {
         return tags;
     }
 
-    void perform(int given) {
-        fuel = given;
+    void perform(int all) {
+        given = all;
+        fuel = all;
         underWay = 0;
         most = 0;
         outs.clear();
