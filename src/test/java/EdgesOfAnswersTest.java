@@ -13,7 +13,7 @@ public final class EdgesOfAnswersTest {
         textStays();
         isTheProgramNotRunYet();
         wrongLeavesNoProgram();
-        rightAfterWrong();
+        nothingIsLeftOfTheTextBefore();
         valuesThatWerePutOut();
         valuesOfTheLatestRun();
         variablesAtTheEnd();
@@ -87,24 +87,26 @@ public final class EdgesOfAnswersTest {
         }
     }
 
-    private static void rightAfterWrong() {
-        CHECKS.sentence("0, and it is the program, not run yet");
-        String most = "M{" + "Y{T01;}K0a{}".repeat(13) + "}";
-        String[] texts = {PROGRAM, "M{}", most, "Dp{}Dq{}Dr{}M{Pp;}", "M{Y{}F{!1;}}", "M{?1{!1;}{!2;}}", "Dq{!3;}M{Pq;}",
-            "M{" + "a=1;".repeat(39) + "}", "M{!1" + "+1".repeat(77) + ";}"};
-        LeavingMachine machine = new LeavingMachine();
-        for (String before : new String[] {WRONG[0], WRONG[1], WRONG[2], WRONG[3], WRONG[4], "M{" + "B;".repeat(79),
-            "M" + "{".repeat(159), most}) {
+    /** Each text behind each other one is what it would be in a new object. */
+    private static void nothingIsLeftOfTheTextBefore() {
+        CHECKS.sentence("0, and it is the program, not run yet; or in which way it is WRONG, 1 .. 5");
+        String[] texts = {WRONG[0], WRONG[1], WRONG[2], WRONG[3], WRONG[4], PROGRAM, "M{}", "Dp{}Dq{}Dr{}M{Pp;}",
+            "M{" + "Y{T01;}K0a{}".repeat(13) + "}", "M{Y{}F{!1;}}", "M{Y{T01;}K0a{!a;}}", "M{?1{!1;}{!2;}}",
+            "M{@a<2{a=a+1;!a;}}", "Dq4{Y{}F{T41;}}M{}", "Dq{!3;}M{Pq;}", "Dr123{?1{}{T21;}}M{Y{Pr;}K1a{}K2b{}K3c{}}",
+            "M{" + "a=1;".repeat(39) + "}", "M{!1" + "+1".repeat(77) + ";}", "M{Y{}K0a{}}", "Dp{}Dp{}M{}", "M{R;}",
+            "M{@1{@1{B;}B;}Y{}F{}}", "M" + "{".repeat(159)};
+        for (String before : texts) {
             for (String text : texts) {
-                CHECKS.retype(machine, before);
+                LeavingMachine machine = CHECKS.typed(before);
                 machine.compile();
+                Checks.answer(() -> machine.run(3000));
                 CHECKS.retype(machine, text);
-                CHECKS.due("compile of " + text + " behind " + before, machine.compile(), 0);
-                machine.run(3000);
-                LeavingMachine fresh = CHECKS.compiled(text);
-                fresh.run(3000);
-                CHECKS.due("all of " + text + " behind " + before, Checks.seen(machine), Checks.seen(fresh));
-                machine = new LeavingMachine();
+                LeavingMachine fresh = CHECKS.typed(text);
+                String what = text + " behind " + before;
+                CHECKS.due("compile of " + what, machine.compile(), fresh.compile());
+                CHECKS.due("all of " + what, Checks.seen(machine), Checks.seen(fresh));
+                CHECKS.due("run of " + what, Checks.answer(() -> machine.run(3000)), Checks.answer(() -> fresh.run(3000)));
+                CHECKS.due("all behind a run of " + what, Checks.seen(machine), Checks.seen(fresh));
             }
         }
     }

@@ -14,6 +14,7 @@ public final class EdgesOfGrammarTest {
         blocks();
         statementsBegin();
         statementsAreWhole();
+        fullTextsAreWhole();
         upToThreeCatches();
         atLeastOneCatchOrF();
         noTagInTwoCatches();
@@ -146,6 +147,32 @@ public final class EdgesOfGrammarTest {
             "M{X}", "M{R1;}", "M{B1;}", "M{X0;}", "M{T;}", "M{T0;}", "M{T1}", "M{T0a}", "M{Pp}", "M{P;}", "M{Y;}", "M{Y}");
     }
 
+    /** Texts of all 160 characters that break off at each place of a program. */
+    private static void fullTextsAreWhole() {
+        CHECKS.sentence("THE TEXT has at most 160 characters 33 .. 126.");
+        String statements = "!(1+(b))*345;?a<6{R;}{Y{}F{a=1;}}Y{?a{T012;}{T1(a);}}K0c{b=2;}K1d{!1;}F{@9{B;}@a{C;}}R;";
+        for (int length = 0; length <= statements.length(); length++) {
+            String part = statements.substring(0, length);
+            CHECKS.dueCompile("M{" + padding(158 - length) + part, 1);
+        }
+        CHECKS.dueCompile("M{" + padding(157 - statements.length()) + statements + "}", 0);
+        String procedure = "Dp012{}";
+        for (int length = 0; length < procedure.length(); length++) {
+            String part = procedure.substring(0, length);
+            CHECKS.dueCompile("Dq{" + padding(156 - length) + "}" + part, 1);
+        }
+        CHECKS.dueCompile("Dq{" + padding(155) + "}M", 1);
+        CHECKS.dueCompile("Dq{" + padding(154) + "}M{", 1);
+        CHECKS.dueCompile("Dq{" + padding(153) + "}M{}", 0);
+        CHECKS.dueCompile("M{" + padding(156) + "}}", 1);
+    }
+
+    /** Statements of that many characters, which must be 12 or more. */
+    private static String padding(int length) {
+        int fives = length % 4;
+        return "a=10;".repeat(fives) + "a=1;".repeat((length - 5 * fives) / 4);
+    }
+
     private static void upToThreeCatches() {
         CHECKS.sentence("Y block, then up to 3 catches K tag v block, and perhaps F block");
         String body = "Y{?a{T01;}{}?b{T11;}{}?c{T21;}{}}";
@@ -159,6 +186,8 @@ public final class EdgesOfGrammarTest {
         CHECKS.dueCompiles(1, "M{Y{T01;}K0a}", "M{Y{T01;}K0{}}", "M{Y{T01;}Ka{}}", "M{Y{T01;}K{}}", "M{Y{T01;}Ka0{}}",
             "M{Y{T01;}K0ab{}}", "M{Y{T01;}K0a{}{}}", "M{Y{T01;};K0a{}}", "M{Y{}F}", "M{Y{}F;}", "M{YK0a{}}", "M{YF{}}",
             "M{K0a{}}", "M{F{}}");
+        // As many catches as a text can have; all of them are in vain.
+        CHECKS.dueCompile("M{" + "Y{}K0a{}K1a{}K2a{}".repeat(8) + "Y{}K0a{}K1a{}}", 5);
         LeavingMachine machine = CHECKS.dueRun("Dp012{?a{?a-1{T29;}{T18;}}{T07;}}"
             + "M{@a<3{Y{Pp;}K1d{!d;}K2e{!e;}K0c{!c;}F{a=a+1;}}}", 99, 0, 7, 8, 9);
         CHECKS.due("the variable of the last catch", machine.variable(2), 7);
